@@ -96,7 +96,7 @@ public final class FretRoots {
     public int nearest(int above, int below) throws IllegalArgumentException {
         needWithin(above, 1, MOST_NUMBER);
         needWithin(below, 1, MOST_NUMBER);
-        // Below 1 every fret is above the fraction, and the fret before fret 0 can do no better.
+        // Below 1 the greatest k is below 0, so the next one is at most 0.
         if (above < below) {
             return 0;
         }

@@ -6,6 +6,7 @@ final class ChainTest {
         refused();
         edgeOfRefusal();
         exactlyTheGreatest();
+        oddNumbersAtTheEdge();
         wrongNumbers();
         Check.end("ChainTest");
     }
@@ -102,6 +103,20 @@ final class ChainTest {
         chainIs("10^15 above", x, 1000000000000000L, 999983L * 999979L * 997L, 0, 3);
         Check.same("a little more", x.step(1000, 999), false);
         chainIs("10^15 still", x, 1000000000000000L, 999983L * 999979L * 997L, 0, 3);
+    }
+
+    /** Odd numerators just within and just above 10^15, their last factor 999961. */
+    private static void oddNumbersAtTheEdge() {
+        FretRoots x = new FretRoots(1);
+        x.step(11479, 1);
+        x.step(87119, 1);
+        Check.same("999999999478961", x.step(999961, 1), true);
+        chainIs("999999999478961", x, 999999999478961L, 562949953421312L, 49, 3);
+        x.clear();
+        x.step(114251, 1);
+        x.step(8753, 1);
+        Check.same("1000000001478883", x.step(999961, 1), false);
+        chainIs("without 999961", x, 1000039003L, 536870912L, 29, 2);
     }
 
     private static void wrongNumbers() {

@@ -2,6 +2,7 @@
 final class FanTest {
     public static void main(String[] args) {
         cross();
+        edges();
         shiftOfBoth();
         upright();
         wrongFans();
@@ -25,6 +26,15 @@ final class FanTest {
         Check.same("the greatest, at the treble", x.cross(0, 1000, 0), 65536);
         Check.same("the greatest, one on", x.cross(0, 1, 0), (65536000000L * 999 + 65536) / 1000);
         Check.same("the greatest, one on, rest", x.cross(0, 1, 1), (65536000000L * 999 + 65536) % 1000);
+    }
+
+    private static void edges() {
+        FretRoots x = new FretRoots(1);
+        x.fan(1, 1, 1);
+        Check.same("the least", x.cross(0, 1, 0), 256);
+        x.fan(1, 1000000, 1000);
+        Check.same("from the least", x.cross(0, 0, 0), 256);
+        Check.same("to the greatest", x.cross(0, 1000, 0), 256000000);
     }
 
     private static void shiftOfBoth() {

@@ -117,6 +117,8 @@ final class JustTest {
         Check.same("the greatest", x.beat(0, 1, 99999, 0), 99999L * 999999999999L);
         Check.same("the greatest's denominator", x.beat(0, 1, 99999, 1), 1000000);
         Check.same("hertz 100000", x.beat(0, 1, 100000, 1), 10);
+        Check.same("hertz 1", x.beat(2, 1, 1, 0), 1249999);
+        Check.same("hertz 1's denominator", x.beat(2, 1, 1, 1), 1000000);
         Check.noPlace("a 3 goes first", () -> x.beat(3, 0, 0, 0));
         Check.noPlace("b -1", () -> x.beat(0, -1, 440, 0));
         Check.noPlace("b 3 goes first", () -> x.beat(0, 3, 0, 0));
