@@ -1,13 +1,47 @@
-/** What every test here uses: counts answers that are not due, prints them, ends with 1 if there was one. */
+/**
+ * What every test here uses: counts answers that are not due, prints them behind the promise and
+ * the sentence of the document that they break, ends with 1 if there was one.
+ */
 final class Check {
+    static final String PLACE = "ArrayIndexOutOfBoundsException";
+    static final String NUMBER = "IllegalArgumentException";
+    static final String NOTHING = "nothing";
+
     interface Call {
         void run();
     }
 
+    private static String where = "";
+    private static int sentences = 0;
+    private static int doneBehind = 1;
     private static int done = 0;
     private static int wrong = 0;
 
     private Check() {
+    }
+
+    /** From here on the answers belong to a sentence of a promise, or of a term that the promise uses. */
+    static void sentence(int promise, String text) {
+        heading("promise " + promise + ", \"" + text + "\"");
+    }
+
+    /** The same for a sentence that binds every promise. */
+    static void ofAll(String text) {
+        heading("promises 1 to 19, \"" + text + "\"");
+    }
+
+    private static void heading(String text) {
+        needAnswers();
+        where = text + ": ";
+        sentences++;
+        doneBehind = 0;
+    }
+
+    private static void needAnswers() {
+        if (doneBehind == 0) {
+            wrong++;
+            System.out.println(where + "nothing was looked at");
+        }
     }
 
     static void same(String call, long got, long due) {
@@ -27,35 +61,42 @@ final class Check {
     }
 
     static void noPlace(String call, Call made) {
-        same(call, outcome(made), "ArrayIndexOutOfBoundsException");
+        same(call, outcome(made), PLACE);
     }
 
     static void noNumber(String call, Call made) {
-        same(call, outcome(made), "IllegalArgumentException");
+        same(call, outcome(made), NUMBER);
     }
 
     static void fine(String call, Call made) {
-        same(call, outcome(made), "nothing");
+        same(call, outcome(made), NOTHING);
     }
 
     /** The exception's name; one that the machine threw by itself says so. */
     static String outcome(Call made) {
         try {
             made.run();
-            return "nothing";
+            return NOTHING;
         } catch (RuntimeException e) {
             return nameOf(e);
         }
     }
 
     static String nameOf(RuntimeException e) {
+        return (isMachines(e) ? "machine's " : "") + e.getClass().getSimpleName();
+    }
+
+    /** A hot machine throws without a trace; else its words for an index tell it. */
+    private static boolean isMachines(RuntimeException e) {
         String told = e.getMessage();
-        boolean machine = told == null || told.startsWith("Index ");
-        return (machine ? "machine's " : "") + e.getClass().getSimpleName();
+        boolean ofIndex = told != null && told.contains(" out of bounds for length ");
+        return ofIndex || e.getStackTrace().length == 0;
     }
 
     static void end(String test) {
-        System.out.println(test + ": " + done + " answers looked at, " + wrong + " not as due");
+        needAnswers();
+        String looked = sentences == 0 ? "" : sentences + " sentences, ";
+        System.out.println(test + ": " + looked + done + " answers looked at, " + wrong + " not as due");
         if (wrong != 0 || done == 0) {
             System.exit(1);
         }
@@ -63,9 +104,10 @@ final class Check {
 
     private static void report(String call, boolean right, String got, String due) {
         done++;
+        doneBehind++;
         if (!right) {
             wrong++;
-            System.out.println(call + " answered " + got + ", due is " + due);
+            System.out.println(where + call + " answered " + got + ", due is " + due);
         }
     }
 }

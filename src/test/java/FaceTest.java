@@ -70,12 +70,15 @@ final class FaceTest {
             open.add(method.substring(method.indexOf(' ') + 1, method.indexOf('(')));
         }
         for (Class<?> inside : FretRoots.class.getDeclaredClasses()) {
-            Check.same(inside + " is static", Modifier.isStatic(inside.getModifiers()), true);
-            for (Method m : inside.getDeclaredMethods()) {
-                Check.same(m + " bears a public name", open.contains(m.getName()), false);
-            }
+            int shown = inside.getModifiers() & (Modifier.PUBLIC | Modifier.PROTECTED);
+            Check.same(inside + " is shown", shown != 0, false);
+            privateNamesOf(inside, open);
         }
-        for (Method m : FretRoots.class.getDeclaredMethods()) {
+        privateNamesOf(FretRoots.class, open);
+    }
+
+    private static void privateNamesOf(Class<?> type, TreeSet<String> open) {
+        for (Method m : type.getDeclaredMethods()) {
             boolean hidden = Modifier.isPrivate(m.getModifiers());
             Check.same(m + " bears a public name", hidden && open.contains(m.getName()), false);
         }
