@@ -7,11 +7,8 @@ final class CallsTest {
     }
 
     public static void main(String[] args) {
-        lastAnswers();
-        lastRefusals();
-        lastStep();
-        lastOfDearCalls();
-        manyObjects();
+        Check.each(CallsTest::lastAnswers, CallsTest::lastRefusals, CallsTest::lastStep, CallsTest::lastOfDearCalls,
+            CallsTest::manyObjects);
         Check.end("CallsTest");
     }
 
@@ -39,7 +36,7 @@ final class CallsTest {
     }
 
     private static void lastAnswers() {
-        Check.ofAll("An object is used for at most 512 calls after it has been made: the 512th still answers");
+        Check.ofAll("An object is used for at most 512 calls after it has been made", "the 512th still answers");
         // The last ones were scale(512, 1), just(5, 506, 512) and fan(508, 493, 508).
         Check.same("fret(0, false)", worn().fret(0, false), 1024);
         Check.same("exact(12)", worn().exact(12), true);
@@ -61,7 +58,8 @@ final class CallsTest {
     }
 
     private static void lastRefusals() {
-        Check.ofAll("An object is used for at most 512 calls after it has been made: the 512th still throws what is due");
+        Check.ofAll("An object is used for at most 512 calls after it has been made",
+            "the 512th still throws what is due");
         Check.noPlace("fret(25, false)", () -> worn().fret(25, false));
         Check.noPlace("rest(4)", () -> worn().rest(4));
         Check.noNumber("scale(0, 0)", () -> worn().scale(0, 0));
@@ -70,7 +68,8 @@ final class CallsTest {
     }
 
     private static void lastStep() {
-        Check.ofAll("An object is used for at most 512 calls after it has been made: 511 steps and what they come to");
+        Check.ofAll("An object is used for at most 512 calls after it has been made",
+            "511 steps and what they come to");
         Check.same("rest(3)", after511(1, (x, call) -> x.step(1, 1)).rest(3), 511);
         Check.same("rest(2) of octaves up", after511(1, (x, call) -> x.step(524288, 1)).rest(2), 511 * 19);
         Check.same("rest(2) of octaves down", after511(1, (x, call) -> x.step(1, 524288)).rest(2), -511 * 19);
@@ -82,7 +81,7 @@ final class CallsTest {
     }
 
     private static void lastOfDearCalls() {
-        Check.ofAll("An object is used for at most 512 calls after it has been made: the dearest ones");
+        Check.ofAll("An object is used for at most 512 calls after it has been made", "the dearest ones");
         FretRoots fans = after511(24, (x, call) -> {
             if (call % 2 == 1) {
                 x.fan(1000000 - call, 999999 - call, 1000);
@@ -105,7 +104,7 @@ final class CallsTest {
 
     /** No object knows of another one's calls. */
     private static void manyObjects() {
-        Check.ofAll("A new object: another one's calls are not its own");
+        Check.ofAll("A new object", "it knows of no other one's calls");
         FretRoots x = worn();
         FretRoots y = new FretRoots(12);
         Check.same("fret(0, false) of a new one", y.fret(0, false), 256000);

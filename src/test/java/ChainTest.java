@@ -5,31 +5,14 @@ final class ChainTest {
     private static final long MOST = 1000000000000000L;
 
     public static void main(String[] args) {
-        stepNumbersAbove();
-        stepNumbersBelow();
-        stepTimesFraction();
-        halvedFromTwoOn();
-        notHalvedBelowTwo();
-        doubledBelowOne();
-        notDoubledFromOneOn();
-        manyOctavesAtOnce();
-        octavesUpAndDown();
-        mostIsTaken();
-        oneMoreIsRefused();
-        divisorGoesFirst();
-        octavesGoFirst();
-        octavesMakeItTooGreat();
-        refusedWhereLongsWrap();
-        refusedChangesNothing();
-        takenBehindRefused();
-        clear();
-        clearOfRefused();
-        clearOfNew();
-        clearOfOthers();
-        restPartsThere();
-        restOfFifths();
-        stepsSinceClear();
-        refusedAreNoSteps();
+        Check.each(ChainTest::stepNumbersAbove, ChainTest::stepNumbersBelow, ChainTest::stepTimesFraction,
+            ChainTest::halvedFromTwoOn, ChainTest::notHalvedBelowTwo, ChainTest::doubledBelowOne,
+            ChainTest::notDoubledFromOneOn, ChainTest::manyOctavesAtOnce, ChainTest::octavesUpAndDown,
+            ChainTest::mostIsTaken, ChainTest::oneMoreIsRefused, ChainTest::divisorGoesFirst,
+            ChainTest::octavesGoFirst, ChainTest::octavesMakeItTooGreat, ChainTest::refusedWhereLongsWrap,
+            ChainTest::refusedChangesNothing, ChainTest::takenBehindRefused, ChainTest::clear,
+            ChainTest::clearOfRefused, ChainTest::clearOfNew, ChainTest::clearOfOthers, ChainTest::restPartsThere,
+            ChainTest::restOfFifths, ChainTest::stepsSinceClear, ChainTest::refusedAreNoSteps);
         Check.end("ChainTest");
     }
 
@@ -58,7 +41,7 @@ final class ChainTest {
     }
 
     private static void stepNumbersAbove() {
-        Check.sentence(10, "IllegalArgumentException: a number is not 1 .. 1000000: above");
+        Check.sentence(10, "IllegalArgumentException: a number is not 1 .. 1000000.", "above");
         FretRoots x = new FretRoots(12);
         Edges.ofNumber("step(#, 1)", 1, 1000000, above -> x.step(above, 1));
         x.clear();
@@ -69,7 +52,7 @@ final class ChainTest {
     }
 
     private static void stepNumbersBelow() {
-        Check.sentence(10, "IllegalArgumentException: a number is not 1 .. 1000000: below");
+        Check.sentence(10, "IllegalArgumentException: a number is not 1 .. 1000000.", "below");
         FretRoots x = new FretRoots(12);
         Edges.ofNumber("step(1, #)", 1, 1000000, below -> x.step(1, below));
         Check.noNumber("step(2000000, 4)", () -> x.step(2000000, 4));
@@ -84,7 +67,7 @@ final class ChainTest {
     }
 
     private static void stepTimesFraction() {
-        Check.sentence(10, "A STEP makes it that times a fraction: without a common divisor");
+        Check.sentence(10, "A STEP makes it that times a fraction", "without a common divisor");
         FretRoots x = new FretRoots(12);
         taken(x, 3, 2);
         chainIs("of 3 / 2", x, 3, 2, 0, 1);
@@ -118,7 +101,7 @@ final class ChainTest {
     }
 
     private static void notHalvedBelowTwo() {
-        Check.sentence(10, "halves it as long as it is 2 or more: less is not halved");
+        Check.sentence(10, "halves it as long as it is 2 or more", "less is not halved");
         stepFromOne(999999, 500000, 999999, 500000, 0);
         stepFromOne(1000000, 500001, 1000000, 500001, 0);
         stepFromOne(999999, 250000, 999999, 500000, 1);
@@ -137,7 +120,7 @@ final class ChainTest {
     }
 
     private static void notDoubledFromOneOn() {
-        Check.sentence(10, "doubles it as long as it is below 1: 1 and more is not doubled");
+        Check.sentence(10, "doubles it as long as it is below 1", "1 and more is not doubled");
         stepFromOne(1, 1, 1, 1, 0);
         stepFromOne(7, 7, 1, 1, 0);
         stepFromOne(1000000, 999999, 1000000, 999999, 0);
@@ -151,7 +134,8 @@ final class ChainTest {
     }
 
     private static void manyOctavesAtOnce() {
-        Check.sentence(10, "as long as it is 2 or more, as long as it is below 1: the most octaves of one step");
+        Check.sentence(10, "halves it as long as it is 2 or more, doubles it as long as it is below 1",
+            "the most octaves of one step");
         stepFromOne(524288, 1, 1, 1, 19);
         stepFromOne(1, 524288, 1, 1, -19);
         stepFromOne(1, 524289, 1048576, 524289, -20);
@@ -184,7 +168,7 @@ final class ChainTest {
 
     /** 10^15 is the numerator, behind three steps without a common divisor. */
     private static void mostIsTaken() {
-        Check.sentence(10, "a step is refused if a number of it would be above 10^15: 10^15 is not");
+        Check.sentence(10, "a step is refused if a number of it would be above 10^15", "10^15 is not");
         FretRoots x = new FretRoots(12);
         taken(x, 1000000, 999983);
         taken(x, 1000000, 999979);
@@ -201,7 +185,7 @@ final class ChainTest {
 
     /** 211211 * 520801 * 9091 is 10^15 + 1. */
     private static void oneMoreIsRefused() {
-        Check.sentence(10, "a step is refused if a number of it would be above 10^15: 10^15 + 1 is");
+        Check.sentence(10, "a step is refused if a number of it would be above 10^15", "10^15 + 1 is");
         FretRoots x = new FretRoots(12);
         taken(x, 211211, 1);
         taken(x, 520801, 1);
@@ -217,7 +201,8 @@ final class ChainTest {
     }
 
     private static void divisorGoesFirst() {
-        Check.sentence(10, "above 10^15 (without a common divisor)");
+        Check.sentence(10, "(without a common divisor, behind the octaves)",
+            "the divisor is gone before they are looked at");
         FretRoots x = fifths();
         taken(x, 2, 3);
         chainIs("30 fifths", x, THREES / 3, TWOS / 4, 17, 32);
@@ -233,7 +218,7 @@ final class ChainTest {
 
     /** 2^49 / 5^21: twos above never grow, however many octaves a step goes. */
     private static void octavesGoFirst() {
-        Check.sentence(10, "above 10^15 (behind the octaves): before them they may be");
+        Check.sentence(10, "(without a common divisor, behind the octaves)", "before the octaves they may be above");
         FretRoots x = new FretRoots(12);
         for (int i = 0; i < 3; i++) {
             taken(x, 1, 15625);
@@ -254,7 +239,8 @@ final class ChainTest {
 
     /** 2^48 / 3^31 is small enough, but below 1, and 2^50 / 3^31 is not small enough. */
     private static void octavesMakeItTooGreat() {
-        Check.sentence(10, "above 10^15 (behind the octaves): behind them they may not be");
+        Check.sentence(10, "(without a common divisor, behind the octaves)",
+            "behind the octaves they may not be above");
         FretRoots x = new FretRoots(12);
         for (int i = 0; i < 30; i++) {
             taken(x, 1, 3);
@@ -273,7 +259,8 @@ final class ChainTest {
 
     /** 3^31 * 59731 is 761486017335025 in Java's longs, and more are small there; of others it is below 0. */
     private static void refusedWhereLongsWrap() {
-        Check.sentence(10, "a step is refused if a number of it would be above 10^15: also where a long wraps around");
+        Check.sentence(10, "a step is refused if a number of it would be above 10^15",
+            "also where a long wraps around");
         int[] wrapped = {59731, 119461, 268785, 328515, 388245, 537569, 597299, 657029, 806353, 866083, 925813,
             29865, 89595, 149325, 209055, 999999, 999983, 499979, 3, 5, 7};
         FretRoots x = fifths();
@@ -304,7 +291,7 @@ final class ChainTest {
     }
 
     private static void refusedChangesNothing() {
-        Check.sentence(10, "whether it was not refused: a refused step leaves the chain as it was");
+        Check.sentence(10, "whether it was not refused", "a refused step leaves the chain as it was");
         FretRoots x = fifths();
         refused(x, 3, 2);
         chainIs("behind 31 fifths and a refused one", x, THREES, TWOS, 18, 31);
@@ -319,7 +306,7 @@ final class ChainTest {
     }
 
     private static void takenBehindRefused() {
-        Check.sentence(10, "whether it was not refused: the next step goes on from the chain as it was");
+        Check.sentence(10, "whether it was not refused", "the next step goes on from the chain as it was");
         FretRoots x = fifths();
         refused(x, 3, 2);
         taken(x, 2, 3);
@@ -346,7 +333,7 @@ final class ChainTest {
     }
 
     private static void clearOfRefused() {
-        Check.sentence(11, "The CHAIN is 1 / 1, OCTAVES 0: also behind a refused step");
+        Check.sentence(11, "The CHAIN is 1 / 1, OCTAVES 0.", "also behind a refused step");
         FretRoots x = fifths();
         refused(x, 3, 2);
         x.clear();
@@ -356,7 +343,7 @@ final class ChainTest {
     }
 
     private static void clearOfNew() {
-        Check.sentence(11, "The CHAIN is 1 / 1, OCTAVES 0: if it was before, too");
+        Check.sentence(11, "The CHAIN is 1 / 1, OCTAVES 0.", "if it was before, too");
         FretRoots x = new FretRoots(1);
         x.clear();
         chainIs("cleared", x, 1, 1, 0, 0);
@@ -367,7 +354,7 @@ final class ChainTest {
     }
 
     private static void clearOfOthers() {
-        Check.sentence(11, "The CHAIN: and nothing else");
+        Check.sentence(11, "The CHAIN", "and nothing else");
         FretRoots x = new FretRoots(12);
         x.scale(650, 4);
         x.just(7, 3, 2);
@@ -416,7 +403,7 @@ final class ChainTest {
     }
 
     private static void refusedAreNoSteps() {
-        Check.sentence(12, "steps since it was clear (3): a refused step is none, nor is one that throws");
+        Check.sentence(12, "steps since it was clear (3)", "a refused step is none, nor is one that throws");
         FretRoots x = fifths();
         refused(x, 3, 2);
         Check.same("rest(3) behind a refused step", x.rest(3), 31);

@@ -12,7 +12,7 @@ final class Check {
     }
 
     private static String where = "";
-    private static int sentences = 0;
+    private static int tests = 0;
     private static int doneBehind = 1;
     private static int done = 0;
     private static int wrong = 0;
@@ -22,18 +22,33 @@ final class Check {
 
     /** From here on the answers belong to a sentence of a promise, or of a term that the promise uses. */
     static void sentence(int promise, String text) {
-        heading("promise " + promise + ", \"" + text + "\"");
+        heading("promise " + promise, text, "");
+    }
+
+    /** The same for one of several cases of a sentence. */
+    static void sentence(int promise, String text, String which) {
+        heading("promise " + promise, text, ", " + which);
     }
 
     /** The same for a sentence that binds every promise. */
-    static void ofAll(String text) {
-        heading("promises 1 to 19, \"" + text + "\"");
+    static void ofAll(String text, String which) {
+        heading("promises 1 to 19", text, ", " + which);
     }
 
-    private static void heading(String text) {
+    /** One test after the other; a call that throws where an answer is due ends its own test alone. */
+    static void each(Call... tests) {
+        for (Call test : tests) {
+            String outcome = outcome(test);
+            if (!outcome.equals(NOTHING)) {
+                report("a call", false, outcome, "an answer");
+            }
+        }
+    }
+
+    private static void heading(String promise, String text, String which) {
         needAnswers();
-        where = text + ": ";
-        sentences++;
+        where = promise + ", \"" + text + "\"" + which + ": ";
+        tests++;
         doneBehind = 0;
     }
 
@@ -95,7 +110,7 @@ final class Check {
 
     static void end(String test) {
         needAnswers();
-        String looked = sentences == 0 ? "" : sentences + " sentences, ";
+        String looked = tests == 0 ? "" : tests + " tests, ";
         System.out.println(test + ": " + looked + done + " answers looked at, " + wrong + " not as due");
         if (wrong != 0 || done == 0) {
             System.exit(1);

@@ -30,7 +30,7 @@ final class Edges {
         for (int number : new int[] {least, most}) {
             Check.same(named(call, number), Check.outcome(() -> made.with(number)), Check.NOTHING);
         }
-        int[] beyond = {least - 1, most + 1, Integer.MIN_VALUE, Integer.MAX_VALUE, least + 65536 * 256, most - 65536 * 256};
+        int[] beyond = {least - 1, most + 1, Integer.MIN_VALUE, Integer.MAX_VALUE, least + (1 << 24), most - (1 << 24)};
         for (int number : beyond) {
             Check.same(named(call, number), Check.outcome(() -> made.with(number)), due);
         }

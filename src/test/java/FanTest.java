@@ -1,26 +1,11 @@
 /** Promises 14 to 16: fan, cross, upright. Each test is of one sentence of the document. */
 final class FanTest {
     public static void main(String[] args) {
-        bassTaken();
-        trebleTaken();
-        spanTaken();
-        fanIsSet();
-        fanOfOthers();
-        shiftOfBoth();
-        crossFretsThere();
-        crossPartsThere();
-        crossWithinSpan();
-        crossWithinSpanOfNow();
-        crossAtEnds();
-        crossCutOff();
-        crossOfLowerEnds();
-        crossOfGreatest();
-        uprightNearest();
-        uprightEitherWay();
-        uprightFirst();
-        uprightLast();
-        uprightOfLowerEnds();
-        uprightBehindScale();
+        Check.each(FanTest::bassTaken, FanTest::trebleTaken, FanTest::spanTaken, FanTest::fanIsSet,
+            FanTest::fanOfOthers, FanTest::shiftOfBoth, FanTest::crossFretsThere, FanTest::crossPartsThere,
+            FanTest::crossWithinSpan, FanTest::crossWithinSpanOfNow, FanTest::crossAtEnds, FanTest::crossCutOff,
+            FanTest::crossOfLowerEnds, FanTest::crossOfGreatest, FanTest::uprightNearest, FanTest::uprightEitherWay,
+            FanTest::uprightFirst, FanTest::uprightLast, FanTest::uprightOfLowerEnds, FanTest::uprightBehindScale);
         Check.end("FanTest");
     }
 
@@ -37,7 +22,7 @@ final class FanTest {
     }
 
     private static void bassTaken() {
-        Check.sentence(14, "IllegalArgumentException: a length is not 1 .. 1000000: the bass's");
+        Check.sentence(14, "IllegalArgumentException: a length is not 1 .. 1000000", "the bass's");
         FretRoots x = new FretRoots(12);
         Edges.ofNumber("fan(#, 1, 1)", 1, 1000000, bass -> x.fan(bass, 1, 1));
         Edges.ofNumber("fan(#, 1000000, 1000)", 1, 1000000, bass -> x.fan(bass, 1000000, 1000));
@@ -48,7 +33,7 @@ final class FanTest {
     }
 
     private static void trebleTaken() {
-        Check.sentence(14, "IllegalArgumentException: a length is not 1 .. 1000000: the treble's");
+        Check.sentence(14, "IllegalArgumentException: a length is not 1 .. 1000000", "the treble's");
         FretRoots x = new FretRoots(12);
         Edges.ofNumber("fan(1, #, 1)", 1, 1000000, treble -> x.fan(1, treble, 1));
         Edges.ofNumber("fan(1000000, #, 1000)", 1, 1000000, treble -> x.fan(1000000, treble, 1000));
@@ -85,7 +70,7 @@ final class FanTest {
     }
 
     private static void fanOfOthers() {
-        Check.sentence(14, "FAN: bass and treble lengths, SPAN: and nothing else");
+        Check.sentence(14, "FAN: bass and treble lengths, SPAN", "and nothing else");
         FretRoots x = new FretRoots(12);
         x.just(7, 3, 2);
         x.step(3, 2);
@@ -98,7 +83,7 @@ final class FanTest {
     }
 
     private static void shiftOfBoth() {
-        Check.sentence(14, "FAN: two scales beside one another, both with SHIFT: the scale's, as it is now");
+        Check.sentence(14, "FAN: two scales beside one another, both with SHIFT", "the scale's, as it is now");
         FretRoots x = new FretRoots(1);
         x.scale(5, 0);
         Check.same("cross(0, 0, 0) of 1000 at 0", x.cross(0, 0, 0), 1000);
@@ -112,7 +97,7 @@ final class FanTest {
     }
 
     private static void crossFretsThere() {
-        Check.sentence(15, "ArrayIndexOutOfBoundsException: no such fret");
+        Check.sentence(15, "ArrayIndexOutOfBoundsException: no such fret, part", "fret");
         for (int notes : new int[] {1, 12, 24}) {
             FretRoots x = new FretRoots(notes);
             Edges.ofPlace("cross(#, 0, 0) of " + notes, 0, 2 * notes, k -> x.cross(k, 0, 0));
@@ -121,7 +106,7 @@ final class FanTest {
     }
 
     private static void crossPartsThere() {
-        Check.sentence(15, "ArrayIndexOutOfBoundsException: no such part");
+        Check.sentence(15, "ArrayIndexOutOfBoundsException: no such fret, part", "part");
         FretRoots x = new FretRoots(12);
         Edges.ofPlace("cross(0, 0, #)", 0, 1, part -> x.cross(0, 0, part));
         Edges.ofPlace("cross(24, 1, #)", 0, 1, part -> x.cross(24, 1, part));
@@ -137,7 +122,7 @@ final class FanTest {
     }
 
     private static void crossWithinSpanOfNow() {
-        Check.sentence(15, "at is not 0 .. SPAN: the SPAN of now");
+        Check.sentence(15, "at is not 0 .. SPAN", "the SPAN of now");
         FretRoots x = fanned(3, 700, 600, 1000);
         Check.fine("cross(0, 1000, 0) of span 1000", () -> x.cross(0, 1000, 0));
         x.fan(700, 600, 2);
@@ -188,7 +173,8 @@ final class FanTest {
     }
 
     private static void crossOfLowerEnds() {
-        Check.sentence(15, "ACROSS at a place s it lies at (bass's * (SPAN - s) + treble's * s) / SPAN: of LOWER ends");
+        Check.sentence(15, "ACROSS at a place s it lies at (bass's * (SPAN - s) + treble's * s) / SPAN",
+            "of LOWER ends");
         FretRoots x = fannedAt(2, 0, 665857, 941664);
         x.fan(665857, 941664, 2);
         crossIs(x, 1, 0, 470832, 0);
@@ -201,7 +187,7 @@ final class FanTest {
     }
 
     private static void crossOfGreatest() {
-        Check.sentence(15, "(bass's * (SPAN - s) + treble's * s) / SPAN: the greatest");
+        Check.sentence(15, "(bass's * (SPAN - s) + treble's * s) / SPAN", "the greatest");
         FretRoots x = fannedAt(24, 16, 1000000, 1);
         x.fan(1000000, 1, 1000);
         crossIs(x, 0, 0, 65536000000L, 0);
@@ -218,7 +204,7 @@ final class FanTest {
     }
 
     private static void uprightNearest() {
-        Check.sentence(16, "The fret at which the fanned line is straight up (both LOWER ends are nearest one another)");
+        Check.sentence(16, "The fret at which the fanned line is straight up (both LOWER ends are nearest one another");
         Check.same("upright() of 700 and 600", fanned(3, 700, 600, 5).upright(), 6);
         Check.same("upright() of 1000000 and 1", fanned(24, 1000000, 1, 1).upright(), 48);
         // LOWER ends 9 6 4 3 2 and 8 5 4 2 2: nearest at 2, and at the last again.
@@ -228,7 +214,7 @@ final class FanTest {
     }
 
     private static void uprightEitherWay() {
-        Check.sentence(16, "both LOWER ends are nearest one another: whichever is the longer");
+        Check.sentence(16, "both LOWER ends are nearest one another", "whichever is the longer");
         Check.same("upright() of 600 and 700", fanned(3, 600, 700, 5).upright(), 6);
         Check.same("upright() of 1 and 1000000", fanned(24, 1, 1000000, 1).upright(), 48);
         Check.same("upright() of 8 and 9 at 0", fannedAt(2, 0, 8, 9).upright(), 2);
@@ -250,7 +236,7 @@ final class FanTest {
     }
 
     private static void uprightLast() {
-        Check.sentence(16, "The fret: the last one, 2 n, too");
+        Check.sentence(16, "The fret", "the last one, 2 n, too");
         for (int notes : new int[] {1, 2, 12, 24}) {
             FretRoots x = fanned(notes, 1000000, 999, 3);
             Check.same("upright() of " + notes + " notes", x.upright(), 2 * notes);
@@ -258,7 +244,7 @@ final class FanTest {
     }
 
     private static void uprightOfLowerEnds() {
-        Check.sentence(16, "both LOWER ends: not the UPPER ones, nor what the frets leave");
+        Check.sentence(16, "both LOWER ends", "not the UPPER ones, nor what the frets leave");
         // UPPER ends 2 2 2 1 1 1 1 and 1 1 1 1 1 1 1 would already meet at 3.
         Check.same("upright() of 2 and 1 at 0", fannedAt(3, 0, 2, 1).upright(), 4);
         // LOWER ends 5 2 1 and 4 2 1, UPPER ones 5 3 2 and 4 2 1.
@@ -266,7 +252,7 @@ final class FanTest {
     }
 
     private static void uprightBehindScale() {
-        Check.sentence(16, "both LOWER ends are nearest one another: with SHIFT as it is now");
+        Check.sentence(16, "both LOWER ends are nearest one another", "with SHIFT as it is now");
         FretRoots x = new FretRoots(3);
         x.fan(3, 2, 1);
         Check.same("upright() at 8", x.upright(), 6);

@@ -1,32 +1,13 @@
 /** Promises 1 to 4: a new object, scale, fret, exact. Each test is of one sentence of the document. */
 final class FretsTest {
     public static void main(String[] args) {
-        notesAsGiven();
-        notesTooFew();
-        notesTooMany();
-        firstLength();
-        firstShift();
-        firstJustRow();
-        firstChain();
-        firstFan();
-        constant();
-        scaleIsSet();
-        lengthsTaken();
-        shiftsTaken();
-        scaleOfOthers();
-        fretsThere();
-        frets();
-        lowerEndThatMeets();
-        lowerEndHardlyReached();
-        lowerEndHardlyMissed();
-        lowerEndOfLeast();
-        lowerEndOfGreatest();
-        upperEndTheSame();
-        upperEndOneMore();
-        exactFretsThere();
-        exact();
-        exactAtOctaves();
-        exactNever();
+        Check.each(FretsTest::notesAsGiven, FretsTest::notesTooFew, FretsTest::notesTooMany, FretsTest::firstLength,
+            FretsTest::firstShift, FretsTest::firstJustRow, FretsTest::firstChain, FretsTest::firstFan,
+            FretsTest::constant, FretsTest::scaleIsSet, FretsTest::lengthsTaken, FretsTest::shiftsTaken,
+            FretsTest::scaleOfOthers, FretsTest::fretsThere, FretsTest::frets, FretsTest::lowerEndThatMeets,
+            FretsTest::lowerEndHardlyReached, FretsTest::lowerEndHardlyMissed, FretsTest::lowerEndOfLeast,
+            FretsTest::lowerEndOfGreatest, FretsTest::upperEndTheSame, FretsTest::upperEndOneMore,
+            FretsTest::exactFretsThere, FretsTest::exact, FretsTest::exactAtOctaves, FretsTest::exactNever);
         Check.end("FretsTest");
     }
 
@@ -43,21 +24,21 @@ final class FretsTest {
     }
 
     private static void notesAsGiven() {
-        Check.sentence(1, "NOTES the nearest of 1 .. 24: each of these is its own");
+        Check.sentence(1, "NOTES the nearest of 1 .. 24.", "each of these is its own");
         for (int notes = 1; notes <= 24; notes++) {
             hasNotes(notes, notes);
         }
     }
 
     private static void notesTooFew() {
-        Check.sentence(1, "NOTES the nearest of 1 .. 24: fewer are 1");
+        Check.sentence(1, "NOTES the nearest of 1 .. 24.", "fewer are 1");
         for (int notes : new int[] {0, -1, -12, -24, -25, Integer.MIN_VALUE + 1, Integer.MIN_VALUE}) {
             hasNotes(notes, 1);
         }
     }
 
     private static void notesTooMany() {
-        Check.sentence(1, "NOTES the nearest of 1 .. 24: more are 24");
+        Check.sentence(1, "NOTES the nearest of 1 .. 24.", "more are 24");
         for (int notes : new int[] {25, 26, 48, 256, 65536 + 12, Integer.MAX_VALUE - 1, Integer.MAX_VALUE}) {
             hasNotes(notes, 24);
         }
@@ -164,7 +145,7 @@ final class FretsTest {
     }
 
     private static void scaleOfOthers() {
-        Check.sentence(2, "LENGTH and SHIFT: and nothing else");
+        Check.sentence(2, "LENGTH and SHIFT.", "and nothing else");
         FretRoots x = new FretRoots(12);
         x.just(7, 3, 2);
         x.step(3, 2);
@@ -179,7 +160,7 @@ final class FretsTest {
     }
 
     private static void fretsThere() {
-        Check.sentence(3, "ArrayIndexOutOfBoundsException. FRET k (0 .. 2 n)");
+        Check.sentence(3, "FRET k (0 .. 2 n)", "beyond them ArrayIndexOutOfBoundsException");
         for (int notes : new int[] {1, 2, 12, 23, 24}) {
             FretRoots x = new FretRoots(notes);
             Edges.ofPlace("fret(#, false) of " + notes, 0, 2 * notes, k -> x.fret(k, false));
@@ -204,7 +185,8 @@ final class FretsTest {
     }
 
     private static void lowerEndThatMeets() {
-        Check.sentence(3, "its LOWER end is the greatest whole number w with w^n * 2^k not above (LENGTH * 2^SHIFT)^n: as much is not above");
+        Check.sentence(3, "its LOWER end is the greatest whole number w with w^n * 2^k not above (LENGTH * 2^SHIFT)^n",
+            "as much is not above");
         for (int notes = 1; notes <= 24; notes++) {
             FretRoots x = new FretRoots(notes);
             for (long length : new long[] {4, 8, 999996, 1000000}) {
@@ -224,7 +206,7 @@ final class FretsTest {
 
     /** 2 * 470832^2 is 665857^2 - 1; the others are a few ten-millionths above a whole number, too. */
     private static void lowerEndHardlyReached() {
-        Check.sentence(3, "the greatest whole number w with w^n * 2^k not above: hardly reached");
+        Check.sentence(3, "the greatest whole number w with w^n * 2^k not above", "hardly reached");
         lowerEndIs(2, 1, 0, 665857, 470832);
         lowerEndIs(2, 3, 0, 665857, 235416);
         lowerEndIs(24, 12, 0, 665857, 470832);
@@ -240,7 +222,7 @@ final class FretsTest {
 
     /** 2 * 665857^2 is 941664^2 + 2; at the others a double's own powers would already be one above. */
     private static void lowerEndHardlyMissed() {
-        Check.sentence(3, "the greatest whole number w with w^n * 2^k not above: hardly missed");
+        Check.sentence(3, "the greatest whole number w with w^n * 2^k not above", "hardly missed");
         lowerEndIs(2, 1, 0, 941664, 665856);
         lowerEndIs(24, 12, 0, 941664, 665856);
         lowerEndIs(2, 3, 0, 551614, 195024);
@@ -255,7 +237,7 @@ final class FretsTest {
     }
 
     private static void lowerEndOfLeast() {
-        Check.sentence(3, "the greatest whole number w: 0 of what is less than 1");
+        Check.sentence(3, "the greatest whole number w", "0 of what is less than 1");
         for (int notes : new int[] {1, 2, 12, 24}) {
             FretRoots x = new FretRoots(notes);
             x.scale(1, 0);
@@ -267,7 +249,7 @@ final class FretsTest {
     }
 
     private static void lowerEndOfGreatest() {
-        Check.sentence(3, "(LENGTH * 2^SHIFT)^n: the greatest");
+        Check.sentence(3, "(LENGTH * 2^SHIFT)^n", "the greatest");
         FretRoots x = new FretRoots(24);
         x.scale(1000000, 16);
         endsAre(x, "1000000 at 16", 0, 65536000000L, 65536000000L);
@@ -293,7 +275,7 @@ final class FretsTest {
     }
 
     private static void upperEndOneMore() {
-        Check.sentence(3, "its UPPER one w, if these are the same, else w + 1.");
+        Check.sentence(3, "else w + 1.");
         FretRoots x = new FretRoots(3);
         x.scale(1, 0);
         Check.same("fret(3, true) of 1", x.fret(3, true), 1);
@@ -309,7 +291,7 @@ final class FretsTest {
     }
 
     private static void exactFretsThere() {
-        Check.sentence(4, "ArrayIndexOutOfBoundsException. FRET k (0 .. 2 n)");
+        Check.sentence(4, "FRET k (0 .. 2 n)", "beyond them ArrayIndexOutOfBoundsException");
         for (int notes : new int[] {1, 2, 12, 23, 24}) {
             FretRoots x = new FretRoots(notes);
             Edges.ofPlace("exact(#) of " + notes, 0, 2 * notes, x::exact);
@@ -326,7 +308,7 @@ final class FretsTest {
     }
 
     private static void exactAtOctaves() {
-        Check.sentence(4, "Whether a fret's ends are the same: at 1, 1 / 2 and 1 / 4 of LENGTH, if these are whole");
+        Check.sentence(4, "Whether a fret's ends are the same.", "at 1, 1 / 2 and 1 / 4 of LENGTH, if these are whole");
         for (int notes : new int[] {1, 7, 24}) {
             FretRoots x = new FretRoots(notes);
             for (int length = 1; length <= 9; length++) {
@@ -344,7 +326,7 @@ final class FretsTest {
     }
 
     private static void exactNever() {
-        Check.sentence(4, "Whether a fret's ends are the same: hardly apart is not the same");
+        Check.sentence(4, "Whether a fret's ends are the same.", "hardly apart is not the same");
         int[][] hardly = {{2, 1, 665857, 0}, {2, 1, 941664, 0}, {24, 12, 665857, 0}, {12, 1, 729035, 16},
             {24, 47, 181615, 16}, {12, 1, 753098, 16}};
         for (int[] h : hardly) {

@@ -1,38 +1,19 @@
-/** Promises 5 to 9 and 13: just, justAt, leaves, beside, nearest, beat. Each test is of one sentence of the document. */
+/**
+ * Promises 5 to 9 and 13: just, justAt, leaves, beside, nearest, beat. Each test is of one sentence of
+ * the document.
+ */
 final class JustTest {
     public static void main(String[] args) {
-        justPlacesThere();
-        justNumbersAbove();
-        justNumbersBelow();
-        justWithoutDivisor();
-        justOfOnePlace();
-        justAtPlacesThere();
-        justAtPartsThere();
-        justAtParts();
-        leavesPlacesThere();
-        leavesCutOff();
-        leavesOfLeast();
-        leavesOfGreatest();
-        leavesBehindScale();
-        besidePlacesThere();
-        besideLess();
-        besideTheSame();
-        besideMore();
-        nearestNumbersAbove();
-        nearestNumbersBelow();
-        nearestItself();
-        nearestNotPastMiddle();
-        nearestPastMiddle();
-        nearestAtLeast();
-        nearestAtMost();
-        nearestWithoutDivisor();
-        beatPlacesThere();
-        beatPartsThere();
-        beatHertz();
-        beats();
-        beatsOfNoDifference();
-        beatsWithoutDivisor();
-        beatsOfGreatest();
+        Check.each(JustTest::justPlacesThere, JustTest::justNumbersAbove, JustTest::justNumbersBelow,
+            JustTest::justOfEdges, JustTest::justWithoutDivisor, JustTest::justOfOnePlace, JustTest::justAtPlacesThere,
+            JustTest::justAtPartsThere, JustTest::justAtParts, JustTest::leavesPlacesThere, JustTest::leavesCutOff,
+            JustTest::leavesOfLeast, JustTest::leavesOfGreatest, JustTest::leavesBehindScale,
+            JustTest::besidePlacesThere, JustTest::besideLess, JustTest::besideTheSame, JustTest::besideMore,
+            JustTest::nearestNumbersAbove, JustTest::nearestNumbersBelow, JustTest::nearestItself,
+            JustTest::nearestNotPastMiddle, JustTest::nearestPastMiddle, JustTest::nearestAtLeast,
+            JustTest::nearestAtMost, JustTest::nearestWithoutDivisor, JustTest::beatPlacesThere,
+            JustTest::beatPartsThere, JustTest::beatHertz, JustTest::beats, JustTest::beatsOfNoDifference,
+            JustTest::beatsWithoutDivisor, JustTest::beatsOfGreatest);
         Check.end("JustTest");
     }
 
@@ -42,7 +23,7 @@ final class JustTest {
     }
 
     private static void justPlacesThere() {
-        Check.sentence(5, "ArrayIndexOutOfBoundsException. JUST row: places 0 .. 2 n");
+        Check.sentence(5, "places 0 .. 2 n", "beyond them ArrayIndexOutOfBoundsException");
         for (int notes : new int[] {1, 12, 24}) {
             FretRoots x = new FretRoots(notes);
             Edges.ofPlace("just(#, 3, 2) of " + notes, 0, 2 * notes, k -> x.just(k, 3, 2));
@@ -52,7 +33,7 @@ final class JustTest {
     }
 
     private static void justNumbersAbove() {
-        Check.sentence(5, "IllegalArgumentException: a number is not 1 .. 1000000. FRACTIONS have a numerator 1 .. 1000000");
+        Check.sentence(5, "IllegalArgumentException: a number is not 1 .. 1000000.", "above");
         FretRoots x = new FretRoots(12);
         Edges.ofNumber("just(7, #, 1)", 1, 1000000, above -> x.just(7, above, 1));
         Edges.ofNumber("just(7, #, 1000000)", 1, 1000000, above -> x.just(7, above, 1000000));
@@ -63,7 +44,7 @@ final class JustTest {
     }
 
     private static void justNumbersBelow() {
-        Check.sentence(5, "IllegalArgumentException: a number is not 1 .. 1000000. and a denominator 1 .. 1000000");
+        Check.sentence(5, "IllegalArgumentException: a number is not 1 .. 1000000.", "below");
         FretRoots x = new FretRoots(12);
         Edges.ofNumber("just(7, 1, #)", 1, 1000000, below -> x.just(7, 1, below));
         Edges.ofNumber("just(7, 1000000, #)", 1, 1000000, below -> x.just(7, 1000000, below));
@@ -75,12 +56,21 @@ final class JustTest {
         fractionIs(x, 7, 1, 1000000);
     }
 
+    private static void justOfEdges() {
+        Check.sentence(5, "FRACTIONS have a numerator 1 .. 1000000 and a denominator 1 .. 1000000");
+        int[][] kept = {{1, 1}, {1, 1000000}, {1000000, 1}, {999999, 1000000}, {1000000, 999999}, {999999, 999998}};
+        FretRoots x = new FretRoots(3);
+        for (int[] f : kept) {
+            x.just(6, f[0], f[1]);
+            fractionIs(x, 6, f[0], f[1]);
+        }
+    }
+
     private static void justWithoutDivisor() {
-        Check.sentence(5, "FRACTIONS are as they are without a common divisor.");
+        Check.sentence(5, "as they are without a common divisor.");
         int[][] due = {{4, 2, 2, 1}, {2, 4, 1, 2}, {6, 4, 3, 2}, {7, 7, 1, 1}, {1000000, 1000000, 1, 1},
-            {999999, 1000000, 999999, 1000000}, {1000000, 999999, 1000000, 999999}, {1000000, 2, 500000, 1},
-            {5, 1000000, 1, 200000}, {999999, 333333, 3, 1}, {786432, 524288, 3, 2}, {832040, 514229, 832040, 514229},
-            {720720, 831600, 13, 15}, {1, 1, 1, 1}};
+            {1000000, 2, 500000, 1}, {2, 1000000, 1, 500000}, {5, 1000000, 1, 200000}, {999999, 333333, 3, 1},
+            {786432, 524288, 3, 2}, {832040, 514229, 832040, 514229}, {720720, 831600, 13, 15}};
         for (int[] d : due) {
             FretRoots x = new FretRoots(1);
             x.just(1, d[0], d[1]);
@@ -90,7 +80,7 @@ final class JustTest {
     }
 
     private static void justOfOnePlace() {
-        Check.sentence(5, "The fraction of a JUST place: of no other one");
+        Check.sentence(5, "The fraction of a JUST place.", "of no other one");
         FretRoots x = new FretRoots(2);
         for (int k = 0; k <= 4; k++) {
             x.just(k, 11 + k, 10);
@@ -106,7 +96,7 @@ final class JustTest {
     }
 
     private static void justAtPlacesThere() {
-        Check.sentence(6, "ArrayIndexOutOfBoundsException. JUST row: places 0 .. 2 n");
+        Check.sentence(6, "places 0 .. 2 n", "beyond them ArrayIndexOutOfBoundsException");
         for (int notes : new int[] {1, 12, 24}) {
             FretRoots x = new FretRoots(notes);
             Edges.ofPlace("justAt(#, 0) of " + notes, 0, 2 * notes, k -> x.justAt(k, 0));
@@ -132,7 +122,7 @@ final class JustTest {
     }
 
     private static void leavesPlacesThere() {
-        Check.sentence(7, "ArrayIndexOutOfBoundsException. JUST row: places 0 .. 2 n");
+        Check.sentence(7, "places 0 .. 2 n", "beyond them ArrayIndexOutOfBoundsException");
         for (int notes : new int[] {1, 12, 24}) {
             FretRoots x = new FretRoots(notes);
             Edges.ofPlace("leaves(#) of " + notes, 0, 2 * notes, x::leaves);
@@ -159,7 +149,7 @@ final class JustTest {
     }
 
     private static void leavesOfLeast() {
-        Check.sentence(7, "the whole ones (cut off): 0 of what is less than 1");
+        Check.sentence(7, "the whole ones (cut off)", "0 of what is less than 1");
         leavesAre(1, 0, 2, 1, 0);
         leavesAre(1, 0, 1000000, 999999, 0);
         leavesAre(1, 0, 1, 1, 1);
@@ -170,7 +160,7 @@ final class JustTest {
     }
 
     private static void leavesOfGreatest() {
-        Check.sentence(7, "What a JUST place leaves, in parts of 2^SHIFT to one: the greatest");
+        Check.sentence(7, "What a JUST place leaves, in parts of 2^SHIFT to one", "the greatest");
         leavesAre(1000000, 16, 1, 1000000, 65536000000000000L);
         leavesAre(1000000, 16, 1, 1, 65536000000L);
         leavesAre(1000000, 16, 3, 1000000, 21845333333333333L);
@@ -179,7 +169,7 @@ final class JustTest {
     }
 
     private static void leavesBehindScale() {
-        Check.sentence(7, "JUST place k leaves LENGTH / fraction: LENGTH and SHIFT as they are now");
+        Check.sentence(7, "JUST place k leaves LENGTH / fraction.", "LENGTH and SHIFT as they are now");
         FretRoots x = new FretRoots(12);
         x.just(7, 3, 2);
         Check.same("leaves(7)", x.leaves(7), 170666);
@@ -194,7 +184,7 @@ final class JustTest {
     }
 
     private static void besidePlacesThere() {
-        Check.sentence(8, "ArrayIndexOutOfBoundsException. JUST row: places 0 .. 2 n");
+        Check.sentence(8, "places 0 .. 2 n", "beyond them ArrayIndexOutOfBoundsException");
         for (int notes : new int[] {1, 12, 24}) {
             FretRoots x = new FretRoots(notes);
             Edges.ofPlace("beside(#) of " + notes, 0, 2 * notes, x::beside);
@@ -258,7 +248,7 @@ final class JustTest {
     }
 
     private static void nearestNumbersAbove() {
-        Check.sentence(9, "IllegalArgumentException: a number is not 1 .. 1000000: above");
+        Check.sentence(9, "IllegalArgumentException: a number is not 1 .. 1000000.", "above");
         FretRoots x = new FretRoots(12);
         Edges.ofNumber("nearest(#, 1)", 1, 1000000, above -> x.nearest(above, 1));
         Edges.ofNumber("nearest(#, 1000000)", 1, 1000000, above -> x.nearest(above, 1000000));
@@ -267,7 +257,7 @@ final class JustTest {
     }
 
     private static void nearestNumbersBelow() {
-        Check.sentence(9, "IllegalArgumentException: a number is not 1 .. 1000000: below");
+        Check.sentence(9, "IllegalArgumentException: a number is not 1 .. 1000000.", "below");
         FretRoots x = new FretRoots(12);
         Edges.ofNumber("nearest(1, #)", 1, 1000000, below -> x.nearest(1, below));
         Edges.ofNumber("nearest(1000000, #)", 1, 1000000, below -> x.nearest(1000000, below));
@@ -284,7 +274,7 @@ final class JustTest {
     }
 
     private static void nearestItself() {
-        Check.sentence(9, "the greatest k with 2^(k / n) not above it: as much is not above");
+        Check.sentence(9, "the greatest k with 2^(k / n) not above it", "as much is not above");
         for (int notes = 1; notes <= 24; notes++) {
             nearestIs(notes, 1, 1, 0);
             nearestIs(notes, 2, 1, notes);
@@ -302,7 +292,7 @@ final class JustTest {
 
     /** The greatest fractions below a middle with numbers up to 1000000. */
     private static void nearestNotPastMiddle() {
-        Check.sentence(9, "or the next one, if the fraction's square is above 2^((2 k + 1) / n): hardly below");
+        Check.sentence(9, "or the next one, if the fraction's square is above 2^((2 k + 1) / n)", "hardly below");
         int[][] due = {{1, 941664, 665857, 0}, {1, 551614, 195025, 1}, {5, 419744, 391635, 0}, {5, 850579, 227907, 9},
             {12, 317584, 308543, 0}, {12, 654894, 449897, 6}, {12, 878636, 452191, 11}, {12, 635168, 308543, 12},
             {12, 831643, 214003, 23}, {23, 941663, 927580, 0}, {23, 451572, 114607, 45}, {24, 308437, 304015, 0},
@@ -314,7 +304,7 @@ final class JustTest {
 
     /** The least fractions above a middle with numbers up to 1000000. */
     private static void nearestPastMiddle() {
-        Check.sentence(9, "or the next one, if the fraction's square is above 2^((2 k + 1) / n): hardly above");
+        Check.sentence(9, "or the next one, if the fraction's square is above 2^((2 k + 1) / n)", "hardly above");
         int[][] due = {{1, 665857, 470832, 1}, {1, 665857, 235416, 2}, {5, 962459, 898006, 1}, {5, 391635, 104936, 10},
             {12, 769775, 747861, 1}, {12, 672455, 461961, 7}, {12, 308543, 158792, 12}, {12, 452191, 219659, 13},
             {12, 308543, 79396, 24}, {23, 114607, 112893, 1}, {23, 814687, 206764, 46}, {24, 709433, 699262, 1},
@@ -353,7 +343,7 @@ final class JustTest {
     }
 
     private static void nearestWithoutDivisor() {
-        Check.sentence(9, "The fret 0 .. 2 n that is nearest to a fraction: with a common divisor, too");
+        Check.sentence(9, "The fret 0 .. 2 n that is nearest to a fraction", "with a common divisor, too");
         nearestIs(12, 600000, 400000, 7);
         nearestIs(12, 262144, 131072, 12);
         nearestIs(24, 999999, 333333, 38);
@@ -369,7 +359,7 @@ final class JustTest {
     }
 
     private static void beatPlacesThere() {
-        Check.sentence(13, "ArrayIndexOutOfBoundsException. JUST row: places 0 .. 2 n");
+        Check.sentence(13, "places 0 .. 2 n", "beyond them ArrayIndexOutOfBoundsException");
         for (int notes : new int[] {1, 12, 24}) {
             FretRoots x = new FretRoots(notes);
             Edges.ofPlace("beat(#, 0, 440, 0) of " + notes, 0, 2 * notes, a -> x.beat(a, 0, 440, 0));
@@ -411,7 +401,7 @@ final class JustTest {
     }
 
     private static void beatsOfNoDifference() {
-        Check.sentence(13, "the greater less the lesser one, as a fraction: none is 0 / 1");
+        Check.sentence(13, "the greater less the lesser one, as a fraction", "none is 0 / 1");
         FretRoots x = threeFractions();
         Check.same("beat(2, 2, 7, 0)", x.beat(2, 2, 7, 0), 0);
         Check.same("beat(2, 2, 7, 1)", x.beat(2, 2, 7, 1), 1);
@@ -425,7 +415,7 @@ final class JustTest {
     }
 
     private static void beatsWithoutDivisor() {
-        Check.sentence(13, "as a fraction: without a common divisor, the pitch's too");
+        Check.sentence(13, "as a fraction", "without a common divisor, the pitch's too");
         FretRoots x = threeFractions();
         Check.same("beat(1, 2, 2, 0)", x.beat(1, 2, 2, 0), 1);
         Check.same("beat(1, 2, 2, 1)", x.beat(1, 2, 2, 1), 2);
@@ -438,7 +428,7 @@ final class JustTest {
     }
 
     private static void beatsOfGreatest() {
-        Check.sentence(13, "BEATS of two just places at a pitch: the greatest and the least difference");
+        Check.sentence(13, "BEATS of two just places at a pitch", "the greatest and the least difference");
         FretRoots x = threeFractions();
         x.just(0, 1000000, 1);
         x.just(1, 1, 1000000);

@@ -4,31 +4,18 @@ final class KeysAndPipesTest {
     private static final int[] DARK = {1, 3, 6, 8, 10};
 
     public static void main(String[] args) {
-        notesThere();
-        partsThere();
-        wideTaken();
-        whiteKeys();
-        whiteKeysSideBySide();
-        darkKeys();
-        keyParts();
-        keysOfLeast();
-        keysOfGreatest();
-        pullHertz();
-        pullLength();
-        pullWeight();
-        pull();
-        pullOfNothing();
-        pullOfGreatest();
-        pipeHertz();
-        pipeMouth();
-        openPipe();
-        closedPipe();
-        pipeOfEdges();
+        Check.each(KeysAndPipesTest::notesThere, KeysAndPipesTest::partsThere, KeysAndPipesTest::wideTaken,
+            KeysAndPipesTest::whiteKeys, KeysAndPipesTest::whiteKeysSideBySide, KeysAndPipesTest::darkKeys,
+            KeysAndPipesTest::keyParts, KeysAndPipesTest::keysOfLeast, KeysAndPipesTest::keysOfGreatest,
+            KeysAndPipesTest::pullHertz, KeysAndPipesTest::pullLength, KeysAndPipesTest::pullWeight,
+            KeysAndPipesTest::pull, KeysAndPipesTest::pullOfNothing, KeysAndPipesTest::pullOfGreatest,
+            KeysAndPipesTest::pipeHertz, KeysAndPipesTest::pipeMouth, KeysAndPipesTest::openPipe,
+            KeysAndPipesTest::closedPipe, KeysAndPipesTest::pipeOfEdges);
         Check.end("KeysAndPipesTest");
     }
 
     private static void notesThere() {
-        Check.sentence(17, "ArrayIndexOutOfBoundsException: no such note (0 .. 11)");
+        Check.sentence(17, "ArrayIndexOutOfBoundsException: no such note (0 .. 11), what", "note");
         FretRoots x = new FretRoots(5);
         for (int what = 0; what < 4; what++) {
             int asked = what;
@@ -39,7 +26,7 @@ final class KeysAndPipesTest {
     }
 
     private static void partsThere() {
-        Check.sentence(17, "ArrayIndexOutOfBoundsException: no such what");
+        Check.sentence(17, "ArrayIndexOutOfBoundsException: no such note (0 .. 11), what", "what");
         FretRoots x = new FretRoots(5);
         Edges.ofPlace("key(0, 165, #)", 0, 3, what -> x.key(0, 165, what));
         Edges.ofPlace("key(1, 165, #)", 0, 3, what -> x.key(1, 165, what));
@@ -77,7 +64,7 @@ final class KeysAndPipesTest {
     }
 
     private static void whiteKeysSideBySide() {
-        Check.sentence(17, "seven WHITE ones side by side: from 0 to WIDE");
+        Check.sentence(17, "seven WHITE ones side by side", "from 0 to WIDE");
         FretRoots x = new FretRoots(5);
         for (long wide : new long[] {1, 7, 165, 1000000}) {
             long edge = 0;
@@ -90,7 +77,8 @@ final class KeysAndPipesTest {
     }
 
     private static void darkKeys() {
-        Check.sentence(17, "five DARK ones (1, 3, 6, 8, 10 of twelve notes) each WIDE / 12 wide with its middle at WIDE * (2 j + 1) / 24");
+        Check.sentence(17, "five DARK ones (1, 3, 6, 8, 10 of twelve notes) each WIDE / 12 wide with its "
+            + "middle at WIDE * (2 j + 1) / 24");
         keyIs(1, 165, 330, 660, 24, 1);
         keyIs(3, 165, 990, 1320, 24, 1);
         keyIs(6, 165, 1980, 2310, 24, 1);
@@ -99,7 +87,8 @@ final class KeysAndPipesTest {
     }
 
     private static void keyParts() {
-        Check.sentence(17, "their denominator (2): 84 for white, 24 for dark ones; 1 for dark ones, else 0 (3)");
+        Check.sentence(17, "their denominator (2): 84 for white, 24 for dark ones, WIDE being told by the "
+            + "numerators; 1 for dark ones, else 0 (3).");
         FretRoots x = new FretRoots(5);
         for (int note : WHITE) {
             Check.same("key(" + note + ", 7, 2)", x.key(note, 7, 2), 84);
@@ -112,7 +101,7 @@ final class KeysAndPipesTest {
     }
 
     private static void keysOfLeast() {
-        Check.sentence(17, "WIDE being told by the numerators: the least, 1");
+        Check.sentence(17, "WIDE being told by the numerators", "the least, 1");
         for (int i = 0; i < WHITE.length; i++) {
             keyIs(WHITE[i], 1, 12 * i, 12 * i + 12, 84, 0);
         }
@@ -122,7 +111,7 @@ final class KeysAndPipesTest {
     }
 
     private static void keysOfGreatest() {
-        Check.sentence(17, "WIDE being told by the numerators: the greatest, 1000000");
+        Check.sentence(17, "WIDE being told by the numerators", "the greatest, 1000000");
         keyIs(0, 1000000, 0, 12000000, 84, 0);
         keyIs(11, 1000000, 72000000, 84000000, 84, 0);
         keyIs(1, 1000000, 2000000, 4000000, 24, 1);
@@ -130,7 +119,7 @@ final class KeysAndPipesTest {
     }
 
     private static void pullHertz() {
-        Check.sentence(18, "IllegalArgumentException: one is not 0 .. 10000: hertz");
+        Check.sentence(18, "IllegalArgumentException: one is not 0 .. 10000.", "hertz");
         FretRoots x = new FretRoots(5);
         Edges.ofReal("pull(#, 1, 1)", 0.0, 10000.0, hertz -> x.pull(hertz, 1.0, 1.0));
         Edges.ofReal("pull(#, 10000, 0)", 0.0, 10000.0, hertz -> x.pull(hertz, 10000.0, 0.0));
@@ -138,7 +127,7 @@ final class KeysAndPipesTest {
     }
 
     private static void pullLength() {
-        Check.sentence(18, "IllegalArgumentException: one is not 0 .. 10000: length");
+        Check.sentence(18, "IllegalArgumentException: one is not 0 .. 10000.", "length");
         FretRoots x = new FretRoots(5);
         Edges.ofReal("pull(1, #, 1)", 0.0, 10000.0, length -> x.pull(1.0, length, 1.0));
         Edges.ofReal("pull(0, #, 10000)", 0.0, 10000.0, length -> x.pull(0.0, length, 10000.0));
@@ -146,7 +135,7 @@ final class KeysAndPipesTest {
     }
 
     private static void pullWeight() {
-        Check.sentence(18, "IllegalArgumentException: one is not 0 .. 10000: weight");
+        Check.sentence(18, "IllegalArgumentException: one is not 0 .. 10000.", "weight");
         FretRoots x = new FretRoots(5);
         Edges.ofReal("pull(1, 1, #)", 0.0, 10000.0, weight -> x.pull(1.0, 1.0, weight));
         Edges.ofReal("pull(10000, 0, #)", 0.0, 10000.0, weight -> x.pull(10000.0, 0.0, weight));
@@ -173,7 +162,7 @@ final class KeysAndPipesTest {
     }
 
     private static void pullOfNothing() {
-        Check.sentence(18, "one is not 0 .. 10000: 0 is, and pulls nothing");
+        Check.sentence(18, "one is not 0 .. 10000", "0 is, and pulls nothing");
         FretRoots x = new FretRoots(5);
         Check.same("pull(0, 10000, 10000)", x.pull(0.0, 10000.0, 10000.0), 0.0);
         Check.same("pull(10000, 0, 10000)", x.pull(10000.0, 0.0, 10000.0), 0.0);
@@ -182,7 +171,7 @@ final class KeysAndPipesTest {
     }
 
     private static void pullOfGreatest() {
-        Check.sentence(18, "one is not 0 .. 10000: 10000 is");
+        Check.sentence(18, "one is not 0 .. 10000", "10000 is");
         FretRoots x = new FretRoots(5);
         Check.same("pull(10000, 10000, 10000)", x.pull(10000.0, 10000.0, 10000.0), 4e20);
     }
@@ -204,7 +193,7 @@ final class KeysAndPipesTest {
     }
 
     private static void openPipe() {
-        Check.sentence(19, "A pipe's length: 340 / hertz / 2 (open), less 0.75 * mouth.");
+        Check.sentence(19, "A pipe's length: 340 / hertz / 2 (open) or / 4, less 0.75 * mouth.", "open");
         FretRoots x = new FretRoots(5);
         Check.same("pipe(170, true, 0)", x.pipe(170.0, true, 0.0), 1.0);
         Check.same("pipe(85, true, 4)", x.pipe(85.0, true, 4.0), -1.0);
@@ -214,7 +203,7 @@ final class KeysAndPipesTest {
     }
 
     private static void closedPipe() {
-        Check.sentence(19, "or / 4, less 0.75 * mouth");
+        Check.sentence(19, "A pipe's length: 340 / hertz / 2 (open) or / 4, less 0.75 * mouth.", "not open");
         FretRoots x = new FretRoots(5);
         Check.same("pipe(170, false, 0)", x.pipe(170.0, false, 0.0), 0.5);
         Check.same("pipe(85, false, 4)", x.pipe(85.0, false, 4.0), -2.0);
@@ -223,7 +212,7 @@ final class KeysAndPipesTest {
     }
 
     private static void pipeOfEdges() {
-        Check.sentence(19, "hertz is not 1 .. 10000, or mouth not 0 .. 100: these are");
+        Check.sentence(19, "hertz is not 1 .. 10000, or mouth not 0 .. 100", "these are");
         FretRoots x = new FretRoots(5);
         Check.same("pipe(1, true, 0)", x.pipe(1.0, true, 0.0), 170.0);
         Check.same("pipe(1, false, 0)", x.pipe(1.0, false, 0.0), 85.0);
